@@ -4,7 +4,9 @@ public final class PromiseTest {
     private static final int THROWN = -77;
     private static final String FANO = "abc ade afg bdf beg cdg cef";
     /** Thirteen words of ten letters, no two with two letters in common. */
-    private static final String THIRTEEN = packed(13);
+    private static final String THIRTEEN = packed(7, 13);
+    /** Twelve words, the last of which could take one letter more, that letter behind a blank. */
+    private static final String TWELVE_AND_D = packed(15, 12).substring(5) + " abc d";
     private static int wrong = 0;
 
     public static void main(String[] args) {
@@ -12,6 +14,7 @@ public final class PromiseTest {
         promise2();
         promise3();
         promise3Stays();
+        promise3Forgets();
         promise4();
         promise5();
         promise6();
@@ -69,10 +72,11 @@ public final class PromiseTest {
     }
 
     /** Words that share at most one letter, picked one by one with a step back where none fits. */
-    private static String packed(int words) {
+    private static String packed(int first, int words) {
         int[] masks = new int[words];
-        int depth = 0;
-        masks[0] = 6;
+        int depth = 1;
+        masks[0] = first;
+        masks[1] = 6;
         while (depth < words) {
             masks[depth]++;
             if (masks[depth] >= 1 << 10) {
@@ -99,7 +103,7 @@ public final class PromiseTest {
             }
             text.append(' ');
         }
-        return text.substring(0, 4 * words - 1);
+        return text.substring(0, text.length() - 1);
     }
 
     private static void promise1() {
@@ -174,6 +178,7 @@ public final class PromiseTest {
         fault("  ab cd zz", 4);
         fault(THIRTEEN, 48);
         fault(THIRTEEN.substring(0, 48) + "  " + THIRTEEN.substring(48), 50);
+        fault(TWELVE_AND_D, 48);
         due("3 blanks behind a twelfth word", tell(new ConfigSearch(), THIRTEEN.substring(0, 48) + "  "), 36);
     }
 
@@ -200,6 +205,21 @@ public final class PromiseTest {
         due("3 no row", x.row(0, 0), NONE);
         due("3 flat anew", x.known(0, 1, 2), 0);
         due("3 new form", x.canonical(0), 7);
+    }
+
+    private static void promise3Forgets() {
+        ConfigSearch x = with("abc ade");
+        x.bar(1, 2, 3);
+        x.orient(0, 1, 4, 1);
+        due("3 all renamings", x.orbit(0), 8);
+        due("3 read anew", tell(x, "ade bce"), 6);
+        due("3 flat no more", x.known(0, 3, 4), NONE);
+        due("3 oriented no more", x.known(0, 1, 4), NONE);
+        due("3 to be barred again", x.bar(1, 2, 3), 1);
+        due("3 to be oriented again", x.orient(0, 1, 4, -1), 1);
+        due("3 all renamings anew", x.orbit(0), 8);
+        due("3 read once more", tell(x, "adebc"), 5);
+        due("3 all renamings once more", x.orbit(0), 120);
     }
 
     private static void promise4() {
@@ -388,6 +408,9 @@ public final class PromiseTest {
         due("10 oriented as it is", y.check(), 1);
         y.realise(7, 20000);
         due("10 over a prime any sign", y.check(), 1);
+        y.bar(1, 2, 3);
+        y.bar(0, 2, 3);
+        due("10 barred since, as it is", y.check(), 1);
         ConfigSearch z = with("abc ade");
         z.realise(5, 100);
         z.orient(2, 3, 4, 1);
@@ -435,6 +458,11 @@ public final class PromiseTest {
         z.realise(5, 20000);
         both("in b", z, 0, 2, z.coordinate(1, 3));
         both("in d", z, 2, 1, z.coordinate(3, 3));
+        ConfigSearch four = with("abc ade bdf cef");
+        four.bar(0, 1, 3);
+        four.realise(5, 20000);
+        both("in f, (1, 4, 0)", four, 2, 3, 26);
+        due("9 place of f", four.coordinate(5, 3), 26);
     }
 
     private static int pivot(ConfigSearch x, int p, int v, int d) {
