@@ -110,12 +110,13 @@ public final class FaceTest {
     private static void wildCalls(String text) {
         for (int field : new int[] {0, 3, 13}) {
             for (int a : WILD) {
-                ConfigSearch x = loaded(text, field);
-                x.sign(a);
-                x.count(a);
-                x.canonical(a);
-                x.orbit(a);
                 for (int b : WILD) {
+                    // anew each time, as an object is used for 512 calls at most
+                    ConfigSearch x = loaded(text, field);
+                    x.sign(a);
+                    x.count(a);
+                    x.canonical(a);
+                    x.orbit(a);
                     x.line(a, b, true);
                     x.coordinate(a, b);
                     x.meets(a, b);
@@ -127,13 +128,13 @@ public final class FaceTest {
                     x.bar(a, b, 3);
                     x.known(a, 4, b);
                     x.orient(2, a, b, 1);
+                    x.proof();
+                    x.check();
+                    x.realise(a, 20);
+                    x.realise(2, a);
+                    x.deduce();
+                    x.read();
                 }
-                x.proof();
-                x.check();
-                x.realise(a, 20);
-                x.realise(2, a);
-                x.deduce();
-                x.read();
             }
         }
     }

@@ -478,8 +478,9 @@ public final class PromiseTest {
         int[] numbers = {Integer.MIN_VALUE, Integer.MAX_VALUE, -26, -13, -7, -3, -1, 0, 1, 2, 3, 6, 10, 12, 13, 22, 143};
         for (int p : new int[] {2, 3, 5, 7, 11, 13}) {
             for (int v : numbers) {
+                ConfigSearch y = new ConfigSearch();
                 for (int d : numbers) {
-                    int r = pivot(x, p, v, d);
+                    int r = pivot(y, p, v, d);
                     boolean fine = d % p == 0 ? r == THROWN : r >= 0 && r < p && ((long) r * d - v) % p == 0;
                     due("13 " + p + " " + v + " " + d, fine ? 1 : 0, 1);
                 }
