@@ -27,6 +27,7 @@ public final class FaceTest {
                 && type.getConstructors()[0].getParameterCount() == 0);
         methods(type);
         fields(type);
+        names(type);
         source();
         for (String text : TEXTS) {
             wildCalls(text);
@@ -76,6 +77,22 @@ public final class FaceTest {
             expect(inside + " is static", Modifier.isStatic(inside.getModifiers()) && !Modifier.isPublic(inside.getModifiers()));
             for (Constructor<?> made : inside.getDeclaredConstructors()) {
                 expect(inside + " throws nothing when made", made.getExceptionTypes().length == 0);
+            }
+        }
+    }
+
+    /** No method of the classes inside, and no hidden one, bears the name of one of the face. */
+    private static void names(Class<?> type) {
+        Set<String> face = new TreeSet<>();
+        for (String method : FACE) {
+            face.add(method.substring(0, method.indexOf('(')));
+        }
+        for (Method method : type.getDeclaredMethods()) {
+            expect("another name than " + method, !hidden(method) || !face.contains(method.getName()));
+        }
+        for (Class<?> inside : type.getDeclaredClasses()) {
+            for (Method method : inside.getDeclaredMethods()) {
+                expect("another name than " + method, !face.contains(method.getName()));
             }
         }
     }

@@ -481,6 +481,17 @@ public final class SignEdges {
         }
     }
 
+    @Edges.Says("FOLLOWING: kind 2 is for a SIGN 0 alone: BARRED with 1 or -1 is of kind 0, and ends nothing")
+    static void termsBarredNotZero() {
+        for (int sign = -1; sign <= 1; sign += 2) {
+            ConfigSearch x = Edges.orientAll(Edges.with("abc ade"), 0, 1, 3, 1, 0, 2, 4, sign, 0, 1, 4, 1);
+            Edges.barAll(x, 0, 2, 3);
+            Edges.due("deduce()", x.deduce(), 1);
+            Edges.rowIs(x, 0, 0, 0, 1, 2, 3, 4, 0, 2, 3, sign);
+            Edges.due("proof()", x.proof(), 1);
+        }
+    }
+
     @Edges.Says("17: from what BARRED tell now: a SIGN that is not 0 is of kind 0 all the same")
     static void p17BarredSince() {
         ConfigSearch x = pencil(0);

@@ -228,6 +228,11 @@ public final class TextEdges {
         fault(" " + Edges.TWELVE + " d", 49);
         fine(Edges.TWELVE + " ", 36);
         fine(Edges.TWELVE.substring(4) + " " + Edges.THIRTEENTH, 36);
+        // a twelfth word that could take the letter itself
+        String open = "aef beg cfg ceh bfh dgh dei agi dfj ahj bij abc";
+        fine(open + "d", 37);
+        fault(open + " d", 48);
+        fault(open + " dab", 48);
     }
 
     @Edges.Says("3: THE FAULT: the second that its word has in common with a word ahead of it")
